@@ -787,7 +787,6 @@ public final class AcidCity {
             }
             volume[made] = v;
             hole[made] = 0;
-            // A CELL of that number may have been there ahead of back().
             Arrays.fill(air[made], 0);
             Arrays.fill(out[made], 0);
             Arrays.fill(heard[made], NONE);

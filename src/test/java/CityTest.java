@@ -181,6 +181,7 @@ public final class CityTest {
             d.eq("city tells", x.city(8 + k), k + 3);
             d.eq("above", x.store(k, 1000000), BAD);
             d.eq("below", x.store(k, -1), BAD);
+            d.eq("to 0", x.store(k, 0), k + 3);
         }
         d.eq("STORE 6", x.store(6, 0), BAD);
         d.eq("STORE -1", x.store(-1, 0), BAD);
@@ -197,7 +198,8 @@ public final class CityTest {
             } else {
                 d.eq("give 0", x.give(k, 0, 0), BAD);
                 d.eq("give too much", x.give(k, 0, 1000000), BAD);
-                d.eq("give", x.give(k, 0, 10), 999989);
+                d.eq("give 1", x.give(k, 0, 1), 999998);
+                d.eq("give", x.give(k, 0, 9), 999989);
                 d.eq("give more than is there", x.give(k, 0, 999990), NO);
                 d.eq("give all but it would be above", x.air(0, gas, 11), 10);
                 d.eq("above", x.give(k, 0, 999989), NO);
@@ -241,6 +243,9 @@ public final class CityTest {
             d.eq("more", x.work(0, 0, 1, 0, 0), i);
         }
         d.eq("the 25th", x.work(0, 0, 1, 0, 0), FULL);
+        d.eq("PATCH on none", x.work(5, 0, 1, 24, 5), BAD);
+        d.eq("PATCH on none", x.work(5, 0, 1, 25, 5), BAD);
+        d.eq("PATCH on none", x.work(5, 0, 1, Integer.MAX_VALUE, 5), BAD);
         d.eq("BAD first", x.work(0, 0, 0, 0, 0), BAD);
         d.eq("WORKS", x.count(2), 24);
     }
@@ -718,6 +723,16 @@ public final class CityTest {
         d.eq("99 left", y.has(2, 7), 99);
         d.eq("1 and 1", y.has(2, 6), 48);
         d.eq("OUT", y.told(0, 11), 3);
+        AcidCity z = new AcidCity();
+        z.cell(10);
+        z.work(1, 0, 1, 1, 99);
+        for (int l = 0; l <= 60; l++) {
+            z.table(2, l, 1009);
+        }
+        z.run(1);
+        d.eq("100 is a LAYER", z.has(0, 5), 0);
+        d.eq("100 less 100", z.has(0, 7), 0);
+        d.eq("1 and 99 / 50", z.has(0, 6), 97);
     }
 
     private static void probes() {

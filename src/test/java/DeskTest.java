@@ -59,6 +59,11 @@ public final class DeskTest {
         x.shows(2, 2, 2);
         x.shows(2, 3, 3);
         d.eq("9 alike", x.find(1), 2);
+        x.shows(2, 4, 3);
+        x.shows(6, 2, 1);
+        d.eq("8 alike", x.find(1), 2);
+        x.shows(6, 2, 0);
+        x.shows(2, 4, 0);
         x.tested(2, 0);
         d.eq("of those not TESTED, by what is LEFT", x.find(1), 5);
         x.tested(5, 0);
@@ -261,6 +266,8 @@ public final class DeskTest {
         d.eq("24 HOURS", x.dark(24, 300), NONE);
         d.eq("24 HOURS", x.load(24, 300, 0), NONE);
         d.eq("BAD ahead of NONE", x.load(24, 300, 24), BAD);
+        d.eq("1 HOUR", x.load(1, 13, 0), 0);
+        d.eq("BANK 0", x.load(1, 0, 0), NONE);
         x.takes(2, 12);
         d.eq("one less", x.dark(24, 300), 0);
         d.eq("THE BANK is never below 0", x.dark(1, 11), NONE);

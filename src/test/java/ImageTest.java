@@ -8,6 +8,7 @@ public final class ImageTest {
         checkLoads();
         checkOrder();
         checkDay();
+        dayThatComes();
         keeps();
         backAgain();
         keepsVote();
@@ -66,6 +67,8 @@ public final class ImageTest {
             all[2 * i + 1] = 300 - i - 1;
         }
         d.eq("24 HOURS", check(x, 0, 24, 300, all), 0);
+        x.takes(0, 0);
+        d.eq("1 HOUR, BANK 0", check(x, 0, 1, 0, 0, 0), 0);
     }
 
     private static void checkOrder() {
@@ -76,6 +79,7 @@ public final class ImageTest {
         x.build(2, 9, 0);
         d.eq("right", check(x, 1, 60, 999, 1, 2, 0, 5), 0);
         d.eq("wrong YEAR", check(x, 1, 60, 0, 1, 3, 0, 5), 2);
+        d.eq("1 YEAR: the first by numbers", check(x, 1, 1, 0, 0, 3, 1, 5), 0);
         d.eq("wrong", check(x, 1, 60, 0, 1, 2, 1, 5), 3);
         d.eq("missing", check(x, 1, 60, 0, 1, 2, 0), 4);
         d.eq("years 0", check(x, 1, 0, 0, 1), BAD);
@@ -121,6 +125,55 @@ public final class ImageTest {
         d.eq("24 HOURS", check(y, 2, 24, 0, due), 0);
     }
 
+    /** THE DAY TOLD of a city where all goes on at once is the day that comes. */
+    private static void dayThatComes() {
+        AcidCity x = new AcidCity();
+        for (int i = 0; i < 3; i++) {
+            x.cell(20 + 30 * i);
+            x.air(i, 0, 4000 * i);
+            x.air(i, 2, 900);
+            x.air(i, 3, 300 * i);
+            x.person(9 + 3 * i, 3, i);
+            x.person(40, 0, i);
+        }
+        x.air(1, 5, 3);
+        x.lock(0, 1, 4);
+        x.lock(2, 1, 7);
+        x.turn(0, 0, 1);
+        x.turn(1, 0, 1);
+        x.work(1, 0, 90, 2, 130);
+        x.work(5, 2, 5, 0, 100);
+        x.work(2, 1, 20, 6, 0);
+        x.work(3, 2, 20, 5, 0);
+        x.work(4, 0, 20, 2, 0);
+        x.work(6, 0, 20, 9000, 0);
+        x.work(2, 2, 20, 3, 0);
+        x.tune(2, 1, 77);
+        x.tune(6, 0, 0);
+        x.store(5, 900);
+        x.store(0, 500);
+        x.set(2, 200);
+        x.table(2, 31, 90);
+        x.drop(5);
+        x.run(25);
+        x.keep();
+        int[] due = new int[10];
+        for (int i = 0; i < 5; i++) {
+            x.run(60);
+            due[2 * i] = x.city(0);
+            due[2 * i + 1] = x.told(0, 0) + x.told(1, 0) + x.told(2, 0);
+        }
+        d.eq("OXYGEN came to be another", due[1] != due[9] ? 1 : 0, 1);
+        d.eq("HEIGHT came to be another", due[0] != due[8] ? 1 : 0, 1);
+        d.eq("the day that came", check(x, 2, 5, 0, due), 0);
+        x.back();
+        d.eq("and told again", check(x, 2, 5, 0, due), 0);
+        for (int i = 0; i < 5; i++) {
+            x.run(60);
+            d.eq("and gone on from", x.city(0), due[2 * i]);
+        }
+    }
+
     private static void keeps() {
         AcidCity x = new AcidCity();
         d.eq("no IMAGE", x.back(), NO);
@@ -161,7 +214,7 @@ public final class ImageTest {
         x.air(0, 5, 0);
         x.work(0, 0, 5, 0, 0);
         x.drop(1);
-        x.run(100);
+        x.run(101);
         x.turn(0, 0, 0);
         x.store(5, 0);
         x.table(1, 3, 6);
@@ -313,6 +366,14 @@ public final class ImageTest {
         x.back();
         d.eq("to strike still", x.tally(), 1);
         d.eq("struck", x.of(1, 2), 1);
+        x.keep();
+        x.hold(0);
+        x.say(0, 1);
+        d.eq("made", x.tally(), 1);
+        d.eq("made", x.of(0, 1), 1);
+        x.back();
+        d.eq("MOOTED again", x.of(0, 1), NONE);
+        d.eq("to make it", x.hold(0), 0);
     }
 
     private static void keepsReports() {

@@ -271,6 +271,10 @@ public final class ModelTest {
         }
         both("trim", s.length());
         int made = both("text");
+        boolean kept = made >= 0 && chance(15);
+        if (kept) {
+            both("keep");
+        }
         if (made >= 0 && chance(80)) {
             if (model.count(14) == 1) {
                 both("tally");
@@ -286,6 +290,10 @@ public final class ModelTest {
         }
         for (int key = 0; key < 6; key++) {
             both("why", key);
+        }
+        if (kept && chance(50)) {
+            both("back");
+            both("of", made, 1);
         }
     }
 

@@ -101,6 +101,10 @@ public final class PeopleTest {
         d.eq("the DEAD need nothing", x.birth(0), 3);
         x.shed();
         d.eq("GONE GARDEN gives none", x.birth(0), NO);
+        Say.law(x, "birth p = 3 & h = 12");
+        x.set(0, 129);
+        d.eq("p and h", x.birth(0), 4);
+        d.eq("p", x.birth(0), NO);
     }
 
     private static void feeding() {
@@ -148,6 +152,9 @@ public final class PeopleTest {
         fault("share aa", 6);
         fault("share a a", 8);
         fault("share 5a", 7);
+        fault("share z", 6);
+        fault("sharez", 0);
+        fault("share az", 6);
         fault("share 5 5", 8);
         fault("share 12345", 6);
         fault("share a+", 8);
@@ -220,6 +227,8 @@ public final class PeopleTest {
         good("share (a<c)<(s>h)", 0, 4);
         good("share a<c&s=h|1>2", 0, 6);
         good("share 9999", 0, 1);
+        good("share 0", 0, 1);
+        good("share 90", 0, 1);
         good("open(" + "1+".repeat(44) + "1) ", 1, 45);
     }
 
@@ -441,6 +450,19 @@ public final class PeopleTest {
         x.be(1, 1, 0);
         d.eq("who said so still has, though 1 may vote now", x.tally(), 1);
         d.eq("E not 0 is so, below 0 too", Say.law(x, "pass 0 - 1"), 4);
+        AcidCity z = home(0, 0, 0);
+        Say.law(z, "pass n = 2 & y = 1 & h = 44");
+        Say.text(z, "share 1");
+        z.set(0, 445);
+        z.hold(1);
+        z.say(0, 1);
+        z.say(1, 0);
+        d.eq("n 1", z.tally(), 0);
+        z.hold(1);
+        z.say(0, 1);
+        z.say(1, 0);
+        z.say(2, 0);
+        d.eq("n 2, y 1", z.tally(), 1);
     }
 
     private static void latestCounts() {
@@ -536,6 +558,9 @@ public final class PeopleTest {
         Say.law(x, "share (a = 2) * 9999 * 9 + (a = 1) * 9999");
         d.eq("9999 at most", x.share(1, 999999), 500000);
         d.eq("9999 at most", x.share(2, 999999), 499999);
+        Say.law(x, "share (a = 2) * 9999 * 9 + (a = 1)");
+        d.eq("1 of 10000", x.share(1, 10000), 1);
+        d.eq("9999 of 10000", x.share(2, 10000), 9999);
     }
 
     private static void orders() {

@@ -205,6 +205,7 @@ public final class RoomTest {
         AcidCity x = new AcidCity();
         d.eq("years 0", x.plan(0, 1), BAD);
         d.eq("years 61", x.plan(61, 1), BAD);
+        d.eq("1 and 1", x.plan(1, 1), 0);
         d.eq("tries 0", x.plan(1, 0), BAD);
         d.eq("tries 20001", x.plan(1, 20001), BAD);
         d.eq("nothing", x.plan(60, 20000), 0);
@@ -264,5 +265,7 @@ public final class RoomTest {
             d.eq("planned", x.planned(10, i), due[i]);
         }
         d.eq("far", x.planned(10, Integer.MAX_VALUE), NONE);
+        d.eq("60 YEARS", x.planned(60, 0), 0);
+        d.eq("1 YEAR: nothing counts, the first by numbers", x.planned(1, 3), 3);
     }
 }
