@@ -1844,7 +1844,7 @@ public final class AcidCity {
         }
 
         private int nameAt(int i) {
-            return within(i, 0, names.length - 1) ? names[i] : 0;
+            return i >= 0 && i < names.length ? names[i] : 0;
         }
 
         private static int joined(int sign, int x, int y) {
